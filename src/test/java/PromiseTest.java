@@ -17,9 +17,11 @@ public final class PromiseTest {
         textLimits();
         textTokens();
         textReplaces();
+        textsAgain();
         roastAnswers();
         roastActs();
         roastValues();
+        valuesOfTheNextRoast();
         roasted();
         take();
         blend();
@@ -40,6 +42,7 @@ public final class PromiseTest {
         stale();
         found();
         led();
+        fullHouse();
         count();
         System.out.println(asked + " answers, " + wrong + " not as due");
         if (wrong != 0) {
@@ -384,6 +387,33 @@ public final class PromiseTest {
         due("roasted(0) without lines", x.roasted(0), 20);
     }
 
+    /** The tape and the text's rows are used again: nothing of what was there may shine through. */
+    private static void textsAgain() {
+        RoastHouse x = withLots(1);
+        read(x, "drop when 12;");
+        due("a number in front of older digits", read(x, "drop when 1"), 1 + 16 * 11);
+        read(x, "drop when minute");
+        due("a word in front of older letters", read(x, "drop when minut"), 1 + 16 * 10);
+        due("a word in front of older letters", read(x, "drop whe"), 1 + 16 * 5);
+        String sum = repeated("1+", 280);
+        due("560 signs of a sum", read(x, "drop when " + sum + "minute=285;"), 0);
+        x.roast(0, 100);
+        due("minutes by it", x.roasted(0), 5);
+        due("560 signs of tests", read(x, "drop when " + repeated("1and ", 110) + "minute;"), 0);
+        x.roast(0, 100);
+        due("minutes by these", x.roasted(0), 1);
+        for (int i = 1; i <= 8; i++) {
+            due("a long text again", read(x, "drop when " + sum + "minute=" + (280 + i) + ";"), 0);
+            x.roast(0, 100);
+            due("minutes by it", x.roasted(0), i);
+            due("a long text with a fault", read(x, "drop when " + sum), 1 + 16 * 570);
+        }
+        due("a word up to the last sign", read(x, repeated(" ", 596) + "drop"), 1 + 16 * 600);
+        due("a number up to the last sign", read(x, repeated(" ", 586) + "drop when 1234"), 1 + 16 * 600);
+        due("a line up to the last sign", read(x, repeated(" ", 588) + "drop when 1;"), 0);
+        due("a line beyond the last sign", read(x, repeated(" ", 589) + "drop when 1;"), 1 + 16 * 600);
+    }
+
     // ---- promise 7
 
     private static void roastAnswers() {
@@ -493,6 +523,20 @@ public final class PromiseTest {
         dueRoast("drop when 1 and 1<1+(1 and 1<1+(1 and 1<1+(1 and 1<1+(1 and 4<1+minute))));", 4, 224, 1);
     }
 
+    private static void valuesOfTheNextRoast() {
+        RoastHouse x = withLots(1);
+        read(x, "drop when minute = 0 and 0 < rise; fire 9 when 1; drum 1 when 1;");
+        x.roast(0, 1000);
+        x.roast(0, 1000);
+        due("rise is 0 in the first minute of the next", x.roasted(0), 20);
+        due("it is not dropped", x.roasted(3), 0);
+        read(x, "drop when fire = 5 and drum = 5 and warmth = 200; fire 0 when 1;");
+        x.roast(0, 1000);
+        due("fire, drum and warmth are as at first", x.roasted(3), 1);
+        due("no minute went by", x.roasted(0), 0);
+        due("the way is new", x.roasted(4), 0);
+    }
+
     // ---- promise 8
 
     private static void roasted() {
@@ -549,6 +593,7 @@ public final class PromiseTest {
         due("take(0, 950)", x.take(0, 950), 1);
         due("take(0, 1) again", x.take(0, 1), -1);
         due("take(2, 1)", x.take(2, 1), 2);
+        due("take(2, 1) again", x.take(2, 1), -1);
         x.send(3, 4);
         due("take of one in a house", x.take(3, 1), -1);
         due("take(1, 1)", x.take(1, 1), 3);
@@ -909,6 +954,8 @@ public final class PromiseTest {
         x.span(2, 0, 100);
         read(x, "drop when 1;");
         x.roast(6, 501);
+        x.lot(100000, 77, 100, 100, 100);
+        due("the most grams, and tastes of 100", x.best(128, 100000), 770);
         due("what a roast took is not there", x.best(96, 1000), 6 * 200 + 4 * 100);
         x.roast(6, 499);
         due("nothing is left of it", x.best(64, 10), -1);
@@ -1076,6 +1123,9 @@ public final class PromiseTest {
             due("found(1, " + i + ") behind blend()", x.found(1, i), now[i]);
         }
         due("found(0, 1)", x.found(0, 1), 4);
+        x.take(0, 1);
+        x.blend();
+        due("found with one gram", x.found(1, 3), 5);
     }
 
     private static void led() {
@@ -1100,6 +1150,26 @@ public final class PromiseTest {
         due("led(0, 10)", x.led(0, 10), -1);
         due("led(LOW, HIGH)", x.led(LOW, HIGH), -1);
         due("led(HIGH, LOW)", x.led(HIGH, LOW), -1);
+    }
+
+    private static void fullHouse() {
+        RoastHouse x = dropping(12);
+        fillBags(x);
+        for (int bag = 0; bag < 60; bag++) {
+            due("send", x.send(bag, 9), true);
+        }
+        x.days(31);
+        due("all are stale", x.stale(9), 60);
+        due("the last one", x.found(0, 59), 59);
+        due("none behind it", x.found(0, 60), -1);
+        due("all are led", x.led(0, 9), 60 * 95);
+        due("count(6)", x.count(6), 60 * 95);
+        due("part(59, 0)", x.part(59, 0), 95);
+        due("bag(60, 0) throws", thrownByBag(x, 60, 0), 1);
+        due("the last lots", x.best(0xFC0, 1000), 1000);
+        dueTenths(x, "of 12 lots", 0, 0, 0, 0, 0, 0, 10, 0, 0, 0, 0, 0);
+        due("of lots 0 and 11", x.best(0x801, 100000), 1000);
+        dueTenths(x, "of 12 lots", 9, 0, 0, 0, 0, 0, 0, 0, 0, 0, 0, 1);
     }
 
     // ---- promise 25
