@@ -278,6 +278,8 @@ public final class PromiseTest {
         dueText("fire 1 when (1 = 2) = (3 < 4);");
         dueText("fire 1 when 1 < 2 and 3 = 4 and 5;");
         dueText("fire 1 when and 1;", 1, 12);
+        dueText("drop and 1;", 1, 5);
+        dueText("drop when 1 when 1;", 1, 12);
         dueText("fire 1 when 1 and and 1;", 1, 18);
         dueText("fire 1 when ();", 1, 13);
         dueText("fire 1 when (1;", 1, 14);
@@ -525,11 +527,10 @@ public final class PromiseTest {
 
     private static void valuesOfTheNextRoast() {
         RoastHouse x = withLots(1);
-        read(x, "drop when minute = 0 and 0 < rise; fire 9 when 1; drum 1 when 1;");
+        read(x, "drop when minute = 3; drop when minute = 0 and 0 < rise;");
         x.roast(0, 1000);
         x.roast(0, 1000);
-        due("rise is 0 in the first minute of the next", x.roasted(0), 20);
-        due("it is not dropped", x.roasted(3), 0);
+        due("rise is 0 in the first minute of the next", x.roasted(0), 3);
         read(x, "drop when fire = 5 and drum = 5 and warmth = 200; fire 0 when 1;");
         x.roast(0, 1000);
         due("fire, drum and warmth are as at first", x.roasted(3), 1);
@@ -894,6 +895,10 @@ public final class PromiseTest {
             due("span of none such", x.span(r[0], r[1], r[2]), false);
         }
         due("best within the spans told at first", x.best(1, 100), 50);
+        x.lot(1000, 7, 100, 100, 100);
+        due("best at their upper edges", x.best(2, 100), 70);
+        x.lot(1000, 8, 0, 0, 0);
+        due("best at their lower edges", x.best(4, 100), 80);
         for (int taste = 0; taste < 3; taste++) {
             int its = 10 * (taste + 1);
             due("span", x.span(taste, its, its), true);
