@@ -1,11 +1,8 @@
-import java.util.NoSuchElementException;
-
 /** Each promise of the document on its own: ordinary inputs, the edges that it names, and wrong inputs. */
 public final class PromiseTest {
-    private static final int LOW = Integer.MIN_VALUE;
-    private static final int HIGH = Integer.MAX_VALUE;
-    private static int wrong = 0;
-    private static int asked = 0;
+    private static final int LOW = House.LOW;
+    private static final int HIGH = House.HIGH;
+    private static final Tally TALLY = new Tally();
 
     public static void main(String[] args) {
         newObject();
@@ -44,45 +41,22 @@ public final class PromiseTest {
         led();
         fullHouse();
         count();
-        System.out.println(asked + " answers, " + wrong + " not as due");
-        if (wrong != 0) {
-            System.exit(1);
-        }
+        TALLY.end();
     }
 
     // ---- helpers
 
     private static void due(String call, long got, long want) {
-        asked++;
-        if (got != want) {
-            wrong++;
-            System.out.println(call + " answered " + got + ", due is " + want);
-        }
+        TALLY.due(call, want, got);
     }
 
     private static void due(String call, boolean got, boolean want) {
         due(call, got ? 1 : 0, want ? 1 : 0);
     }
 
-    private static void feedAll(RoastHouse x, String signs) {
-        for (int at = 0; at < signs.length(); at += 24) {
-            long[] three = new long[3];
-            for (int i = 0; i < 24; i++) {
-                int sign = at + i < signs.length() ? signs.charAt(at + i) : 0;
-                three[i / 8] = three[i / 8] << 8 | sign;
-            }
-            x.feed(three[0], three[1], three[2]);
-        }
-    }
-
-    private static int read(RoastHouse x, String signs) {
-        feedAll(x, signs);
-        return x.text();
-    }
-
     private static void dueText(String signs, int kind, int place) {
-        RoastHouse x = new RoastHouse();
-        due("text() of \"" + signs + "\"", read(x, signs), kind + 16 * place);
+        House x = house();
+        due("text() of \"" + signs + "\"", x.read(signs), kind + 16 * place);
         due("count(4) behind text()", x.count(4), 0);
     }
 
@@ -90,32 +64,25 @@ public final class PromiseTest {
         dueText(signs, 0, 0);
     }
 
+    private static House house() {
+        return new House(TALLY);
+    }
+
     /** A house with some lots of 100,000 grams each. */
-    private static RoastHouse withLots(int lots) {
-        RoastHouse x = new RoastHouse();
-        for (int i = 0; i < lots; i++) {
-            x.lot(100000, 100, 50, 50, 50);
-        }
-        return x;
+    private static House withLots(int lots) {
+        return house().lots(lots);
     }
 
     /** A house whose roasts are dropped at once: 50 of 1,000 are lost. */
-    private static RoastHouse dropping(int lots) {
-        RoastHouse x = withLots(lots);
-        read(x, "drop when 1;");
-        return x;
+    private static House dropping(int lots) {
+        return withLots(lots).dropping();
     }
 
-    private static int thrownByBag(RoastHouse x, int bag, int what) {
-        try {
-            x.bag(bag, what);
-            return 0;
-        } catch (NoSuchElementException e) {
-            return 1;
-        }
+    private static int thrownByBag(House x, int bag, int what) {
+        return x.bag(bag, what) == House.THROWN ? 1 : 0;
     }
 
-    private static void fillBags(RoastHouse x) {
+    private static void fillBags(House x) {
         for (int i = x.count(1); i < 60; i++) {
             due("roast of a bag more", x.roast(0, 100), i);
         }
@@ -124,7 +91,7 @@ public final class PromiseTest {
     // ---- promise 1
 
     private static void newObject() {
-        RoastHouse x = new RoastHouse();
+        House x = house();
         for (int what = 0; what <= 6; what++) {
             due("new: count(" + what + ")", x.count(what), 0);
         }
@@ -140,7 +107,7 @@ public final class PromiseTest {
     // ---- promise 2
 
     private static void lot() {
-        RoastHouse x = new RoastHouse();
+        House x = house();
         int[][] refused = {
             {0, 1, 0, 0, 0}, {100001, 1, 0, 0, 0}, {1, 0, 0, 0, 0}, {1, 10001, 0, 0, 0},
             {1, 1, -1, 0, 0}, {1, 1, 101, 0, 0}, {1, 1, 0, -1, 0}, {1, 1, 0, 101, 0}, {1, 1, 0, 0, -1}, {1, 1, 0, 0, 101},
@@ -165,7 +132,7 @@ public final class PromiseTest {
     // ---- promise 3
 
     private static void days() {
-        RoastHouse x = new RoastHouse();
+        House x = house();
         due("days(0)", x.days(0), 0);
         due("days(7)", x.days(7), 7);
         due("days(-1)", x.days(-1), -1);
@@ -186,14 +153,14 @@ public final class PromiseTest {
     // ---- promise 4
 
     private static void curve() {
-        RoastHouse x = withLots(1);
+        House x = withLots(1);
         due("curve(-1, 0)", x.curve(-1, 0), false);
         due("curve(20, 0)", x.curve(20, 0), false);
         due("curve(0, -1)", x.curve(0, -1), false);
         due("curve(0, 401)", x.curve(0, 401), false);
         due("curve(LOW, 0)", x.curve(LOW, 0), false);
         due("curve(HIGH, HIGH)", x.curve(HIGH, HIGH), false);
-        read(x, "drop when minute = 0;");
+        x.read("drop when minute = 0;");
         x.roast(0, 100);
         due("way from the curve told at first", x.roasted(4), 0);
         due("curve(0, 0)", x.curve(0, 0), true);
@@ -207,7 +174,7 @@ public final class PromiseTest {
         due("curve(0, 190)", x.curve(0, 190), true);
         due("curve(19, 400)", x.curve(19, 400), true);
         x.curve(1, 200);
-        read(x, "drop when told = 400;");
+        x.read("drop when told = 400;");
         x.roast(0, 100);
         due("minute 19 is told 400", x.roasted(0), 19);
         due("way from 400 there", x.roasted(4), 400 - 281);
@@ -216,7 +183,7 @@ public final class PromiseTest {
     // ---- promise 5
 
     private static void feed() {
-        RoastHouse x = new RoastHouse();
+        House x = house();
         due("feed of none", x.feed(0, 0, 0), 0);
         due("feed of signs that are left out", x.feed(0x097F80FF1F0B0D00L, -1L, Long.MIN_VALUE), 0);
         due("feed of the signs at the edges", x.feed(0x0A207E0000000000L, 0, 0x7E), 4);
@@ -233,7 +200,7 @@ public final class PromiseTest {
         for (int i = 1; i <= 24; i++) {
             due("feed of 24 blanks", x.feed(blanks, blanks, blanks), 24 * i);
         }
-        RoastHouse y = new RoastHouse();
+        House y = house();
         for (int i = 1; i <= 24; i++) {
             y.feed(blanks, blanks, blanks);
         }
@@ -302,25 +269,17 @@ public final class PromiseTest {
         dueText("drop when 1; fire 10 when ?;", 4, 18);
     }
 
-    private static String repeated(String signs, int times) {
-        StringBuilder all = new StringBuilder();
-        for (int i = 0; i < times; i++) {
-            all.append(signs);
-        }
-        return all.toString();
-    }
-
     private static void textLimits() {
         String line = "drop when 1;";
-        dueText(repeated(line, 16));
-        dueText(repeated(line, 16) + " \n");
-        dueText(repeated(line, 17), 5, 16 * 12);
-        dueText(repeated(line, 16) + "fire", 5, 16 * 12);
-        dueText(repeated(line, 16) + "\n drum 77", 5, 16 * 12 + 2);
-        dueText(repeated(line, 16) + "stop", 1, 16 * 12);
-        dueText(repeated(line, 16) + "when", 1, 16 * 12);
-        dueText(repeated(line, 16) + ";", 1, 16 * 12);
-        dueText(repeated(line, 16) + "?", 1, 16 * 12);
+        dueText(line.repeat(16));
+        dueText(line.repeat(16) + " \n");
+        dueText(line.repeat(17), 5, 16 * 12);
+        dueText(line.repeat(16) + "fire", 5, 16 * 12);
+        dueText(line.repeat(16) + "\n drum 77", 5, 16 * 12 + 2);
+        dueText(line.repeat(16) + "stop", 1, 16 * 12);
+        dueText(line.repeat(16) + "when", 1, 16 * 12);
+        dueText(line.repeat(16) + ";", 1, 16 * 12);
+        dueText(line.repeat(16) + "?", 1, 16 * 12);
         dueText("drop when ((((1))));");
         dueText("drop when (((((1)))));", 5, 15);
         dueText("drop when (((((minute", 5, 15);
@@ -367,19 +326,19 @@ public final class PromiseTest {
     }
 
     private static void textReplaces() {
-        RoastHouse x = withLots(1);
-        due("text()", read(x, "drop when minute = 3; fire 9 when 0;"), 0);
+        House x = withLots(1);
+        due("text()", x.read("drop when minute = 3; fire 9 when 0;"), 0);
         due("count(3)", x.count(3), 2);
-        due("text() with a fault", read(x, "drop when 1; drop"), 1 + 16 * 17);
+        due("text() with a fault", x.read("drop when 1; drop"), 1 + 16 * 17);
         due("count(3) of the text that stays", x.count(3), 2);
         x.roast(0, 100);
         due("roasted(0) by the text that stays", x.roasted(0), 3);
-        due("text()", read(x, "drop when minute = 5;"), 0);
+        due("text()", x.read("drop when minute = 5;"), 0);
         due("count(3)", x.count(3), 1);
         x.roast(0, 100);
         due("roasted(0) by the new text", x.roasted(0), 5);
-        feedAll(x, "drop when ");
-        feedAll(x, "minute = 7;");
+        x.tape("drop when ");
+        x.tape("minute = 7;");
         due("text() fed in two", x.text(), 0);
         x.roast(0, 100);
         due("roasted(0) by that", x.roasted(0), 7);
@@ -391,39 +350,45 @@ public final class PromiseTest {
 
     /** The tape and the text's rows are used again: nothing of what was there may shine through. */
     private static void textsAgain() {
-        RoastHouse x = withLots(1);
-        read(x, "drop when 12;");
-        due("a number in front of older digits", read(x, "drop when 1"), 1 + 16 * 11);
-        read(x, "drop when minute");
-        due("a word in front of older letters", read(x, "drop when minut"), 1 + 16 * 10);
-        due("a word in front of older letters", read(x, "drop whe"), 1 + 16 * 5);
-        String sum = repeated("1+", 280);
-        due("560 signs of a sum", read(x, "drop when " + sum + "minute=285;"), 0);
+        House x = withLots(1);
+        x.read("drop when 12;");
+        due("a number in front of older digits", x.read("drop when 1"), 1 + 16 * 11);
+        x.read("drop when minute");
+        due("a word in front of older letters", x.read("drop when minut"), 1 + 16 * 10);
+        due("a word in front of older letters", x.read("drop whe"), 1 + 16 * 5);
+        String sum = "1+".repeat(280);
+        due("560 signs of a sum", x.read("drop when " + sum + "minute=285;"), 0);
         x.roast(0, 100);
         due("minutes by it", x.roasted(0), 5);
-        due("560 signs of tests", read(x, "drop when " + repeated("1and ", 110) + "minute;"), 0);
+        due("560 signs of tests", x.read("drop when " + "1and ".repeat(110) + "minute;"), 0);
         x.roast(0, 100);
         due("minutes by these", x.roasted(0), 1);
+        House y = withLots(1);
         for (int i = 1; i <= 8; i++) {
-            due("a long text again", read(x, "drop when " + sum + "minute=" + (280 + i) + ";"), 0);
-            x.roast(0, 100);
-            due("minutes by it", x.roasted(0), i);
-            due("a long text with a fault", read(x, "drop when " + sum), 1 + 16 * 570);
+            due("a long text again", y.read("drop when " + sum + "minute=" + (280 + i) + ";"), 0);
+            y.roast(0, 100);
+            due("minutes by it", y.roasted(0), i);
+            due("a long text with a fault", y.read("drop when " + sum), 1 + 16 * 570);
         }
-        due("a word up to the last sign", read(x, repeated(" ", 596) + "drop"), 1 + 16 * 600);
-        due("a number up to the last sign", read(x, repeated(" ", 586) + "drop when 1234"), 1 + 16 * 600);
-        due("a line up to the last sign", read(x, repeated(" ", 588) + "drop when 1;"), 0);
-        due("a line beyond the last sign", read(x, repeated(" ", 589) + "drop when 1;"), 1 + 16 * 600);
+        textsUpToTheLastSign();
+    }
+
+    private static void textsUpToTheLastSign() {
+        House x = house();
+        due("a word up to the last sign", x.read(" ".repeat(596) + "drop"), 1 + 16 * 600);
+        due("a number up to the last sign", x.read(" ".repeat(586) + "drop when 1234"), 1 + 16 * 600);
+        due("a line up to the last sign", x.read(" ".repeat(588) + "drop when 1;"), 0);
+        due("a line beyond the last sign", x.read(" ".repeat(589) + "drop when 1;"), 1 + 16 * 600);
     }
 
     // ---- promise 7
 
     private static void roastAnswers() {
-        RoastHouse x = new RoastHouse();
+        House x = house();
         due("roast without a lot", x.roast(0, 1), -1);
         x.lot(50000, 1, 0, 0, 0);
         x.lot(150, 1, 0, 0, 0);
-        read(x, "drop when 1;");
+        x.read("drop when 1;");
         due("roast(-1, 1)", x.roast(-1, 1), -1);
         due("roast(2, 1)", x.roast(2, 1), -1);
         due("roast(LOW, 1)", x.roast(LOW, 1), -1);
@@ -452,7 +417,7 @@ public final class PromiseTest {
         due("its day", x.bag(2, 1), 9);
         fillBags(x);
         int left = x.part(-1, 0);
-        read(x, "drop when minute = 4;");
+        x.read("drop when minute = 4;");
         due("roast with 60 bags", x.roast(0, 100), -1);
         due("roast of 1 with 60 bags", x.roast(0, 1), -1);
         due("nothing is taken", x.part(-1, 0), left);
@@ -460,8 +425,8 @@ public final class PromiseTest {
     }
 
     private static void dueRoast(String text, int minutes, int warmth, int dropped) {
-        RoastHouse x = withLots(1);
-        due("text() of \"" + text + "\"", read(x, text), 0);
+        House x = withLots(1);
+        due("text() of \"" + text + "\"", x.read(text), 0);
         x.roast(0, 1000);
         due("minutes of \"" + text + "\"", x.roasted(0), minutes);
         due("warmth of \"" + text + "\"", x.roasted(1), warmth);
@@ -526,12 +491,12 @@ public final class PromiseTest {
     }
 
     private static void valuesOfTheNextRoast() {
-        RoastHouse x = withLots(1);
-        read(x, "drop when minute = 3; drop when minute = 0 and 0 < rise;");
+        House x = withLots(1);
+        x.read("drop when minute = 3; drop when minute = 0 and 0 < rise;");
         x.roast(0, 1000);
         x.roast(0, 1000);
         due("rise is 0 in the first minute of the next", x.roasted(0), 3);
-        read(x, "drop when fire = 5 and drum = 5 and warmth = 200; fire 0 when 1;");
+        x.read("drop when fire = 5 and drum = 5 and warmth = 200; fire 0 when 1;");
         x.roast(0, 1000);
         due("fire, drum and warmth are as at first", x.roasted(3), 1);
         due("no minute went by", x.roasted(0), 0);
@@ -541,7 +506,7 @@ public final class PromiseTest {
     // ---- promise 8
 
     private static void roasted() {
-        RoastHouse x = withLots(1);
+        House x = withLots(1);
         for (int what = -1; what <= 5; what++) {
             due("roasted(" + what + ") ahead of any", x.roasted(what), -1);
         }
@@ -556,7 +521,7 @@ public final class PromiseTest {
         due("roasted(HIGH)", x.roasted(HIGH), -1);
         x.curve(0, 350);
         x.curve(2, 0);
-        read(x, "drop when minute = 2;");
+        x.read("drop when minute = 2;");
         x.roast(0, 1);
         int[] second = {2, 212, 59, 1, 212};
         for (int what = 0; what < 5; what++) {
@@ -576,7 +541,7 @@ public final class PromiseTest {
     // ---- promise 9
 
     private static void take() {
-        RoastHouse x = dropping(1);
+        House x = dropping(1);
         due("take without a bag", x.take(0, 1), -1);
         for (int i = 0; i < 4; i++) {
             x.roast(0, 1000);
@@ -607,7 +572,7 @@ public final class PromiseTest {
     // ---- promise 10
 
     private static void blend() {
-        RoastHouse x = dropping(3);
+        House x = dropping(3);
         due("blend() of nothing", x.blend(), -1);
         x.days(5);
         x.roast(0, 1000);
@@ -649,7 +614,7 @@ public final class PromiseTest {
     }
 
     private static void blendShares() {
-        RoastHouse x = dropping(3);
+        House x = dropping(3);
         x.roast(0, 1000);
         x.roast(1, 1000);
         x.roast(2, 1000);
@@ -694,7 +659,7 @@ public final class PromiseTest {
     }
 
     private static void blendOfMuch() {
-        RoastHouse x = dropping(12);
+        House x = dropping(12);
         for (int i = 0; i < 50; i++) {
             due("roast of 20000", x.roast(i / 5, 20000), i);
             due("take of 19000", x.take(i, 19000), i + 1);
@@ -715,7 +680,7 @@ public final class PromiseTest {
     // ---- promise 11
 
     private static void bag() {
-        RoastHouse x = dropping(2);
+        House x = dropping(2);
         due("bag(0, 0) throws", thrownByBag(x, 0, 0), 1);
         x.days(8);
         x.roast(1, 100);
@@ -734,7 +699,7 @@ public final class PromiseTest {
     // ---- promise 12
 
     private static void part() {
-        RoastHouse x = dropping(2);
+        House x = dropping(2);
         due("part(-1, 0)", x.part(-1, 0), 100000);
         due("part(-1, 2)", x.part(-1, 2), -1);
         due("part(-1, -1)", x.part(-1, -1), -1);
@@ -755,7 +720,7 @@ public final class PromiseTest {
     // ---- promises 13 to 16
 
     private static void mark() {
-        RoastHouse x = new RoastHouse();
+        House x = house();
         int[][] refused = {
             {-1, 0, 0}, {5, 0, 0}, {0, -1, 0}, {0, 20, 0}, {0, 0, -1}, {0, 0, 101},
             {LOW, 0, 0}, {HIGH, 0, 0}, {0, LOW, 0}, {0, HIGH, 0}, {0, 0, LOW}, {0, 0, HIGH},
@@ -776,7 +741,7 @@ public final class PromiseTest {
     }
 
     private static void told() {
-        RoastHouse x = new RoastHouse();
+        House x = house();
         due("told(-1, 0)", x.told(-1, 0), false);
         due("told(20, 0)", x.told(20, 0), false);
         due("told(20, -1)", x.told(20, -1), false);
@@ -801,7 +766,7 @@ public final class PromiseTest {
     }
 
     private static void order() {
-        RoastHouse x = new RoastHouse();
+        House x = house();
         x.told(0, 50);
         x.mark(0, 0, 50);
         x.mark(0, 1, 60);
@@ -826,7 +791,7 @@ public final class PromiseTest {
 
     /** Judges with 18, 19 and 20 told ones, so that worths differ by little and by unlike parts. */
     private static void closeOrder() {
-        RoastHouse x = new RoastHouse();
+        House x = house();
         for (int s = 0; s < 20; s++) {
             x.told(s, 50);
         }
@@ -849,7 +814,7 @@ public final class PromiseTest {
     }
 
     private static void worth() {
-        RoastHouse x = new RoastHouse();
+        House x = house();
         due("worth(-1)", x.worth(-1), -1000000);
         due("worth(20)", x.worth(20), -1000000);
         due("worth(LOW)", x.worth(LOW), -1000000);
@@ -885,7 +850,7 @@ public final class PromiseTest {
     // ---- promises 17 to 19
 
     private static void span() {
-        RoastHouse x = new RoastHouse();
+        House x = house();
         int[][] refused = {
             {-1, 0, 100}, {3, 0, 100}, {0, -1, 100}, {0, 0, 101}, {0, 51, 50}, {0, 101, 101}, {0, -1, -1},
             {LOW, 0, 0}, {HIGH, 0, 0}, {0, LOW, HIGH}, {0, HIGH, LOW}, {1, 0, HIGH}, {2, LOW, 0},
@@ -916,7 +881,7 @@ public final class PromiseTest {
     }
 
     private static void best() {
-        RoastHouse x = new RoastHouse();
+        House x = house();
         due("best without lots", x.best(1, 100), -1);
         due("best of no set", x.best(0, 100), -1);
         int[] prices = {700, 600, 500, 400, 300, 200, 100};
@@ -957,7 +922,7 @@ public final class PromiseTest {
         x.span(0, 0, 100);
         x.span(1, 0, 100);
         x.span(2, 0, 100);
-        read(x, "drop when 1;");
+        x.read("drop when 1;");
         x.roast(6, 501);
         x.lot(100000, 77, 100, 100, 100);
         due("the most grams, and tastes of 100", x.best(128, 100000), 770);
@@ -967,14 +932,14 @@ public final class PromiseTest {
         due("none of it goes in", x.best(96, 10), 2000);
     }
 
-    private static void dueTenths(RoastHouse x, String of, int... tenths) {
+    private static void dueTenths(House x, String of, int... tenths) {
         for (int lot = 0; lot < tenths.length; lot++) {
             due(of + ": tenths(" + lot + ")", x.tenths(lot), tenths[lot]);
         }
     }
 
     private static void bestTies() {
-        RoastHouse x = new RoastHouse();
+        House x = house();
         for (int i = 0; i < 4; i++) {
             x.lot(300, 100, 10 * i, 50, 50);
         }
@@ -990,7 +955,7 @@ public final class PromiseTest {
     }
 
     private static void tenths() {
-        RoastHouse x = new RoastHouse();
+        House x = house();
         due("tenths without lots", x.tenths(0), -1);
         x.lot(1000, 100, 0, 0, 0);
         x.lot(1000, 200, 100, 0, 0);
@@ -1016,7 +981,7 @@ public final class PromiseTest {
     // ---- promises 20 to 24
 
     private static void send() {
-        RoastHouse x = dropping(1);
+        House x = dropping(1);
         due("send without a bag", x.send(0, 0), false);
         for (int i = 0; i < 5; i++) {
             x.roast(0, 100);
@@ -1045,7 +1010,7 @@ public final class PromiseTest {
     }
 
     private static void keeps() {
-        RoastHouse x = dropping(1);
+        House x = dropping(1);
         x.roast(0, 100);
         x.send(0, 9);
         x.days(1);
@@ -1072,7 +1037,7 @@ public final class PromiseTest {
     }
 
     private static void stale() {
-        RoastHouse x = dropping(1);
+        House x = dropping(1);
         due("stale(-1)", x.stale(-1), -1);
         due("stale(10)", x.stale(10), -1);
         due("stale(LOW)", x.stale(LOW), -1);
@@ -1100,7 +1065,7 @@ public final class PromiseTest {
     }
 
     private static void found() {
-        RoastHouse x = dropping(3);
+        House x = dropping(3);
         int[] lots = {1, 0, 1, 1};
         for (int lot : lots) {
             x.roast(lot, 100);
@@ -1134,7 +1099,7 @@ public final class PromiseTest {
     }
 
     private static void led() {
-        RoastHouse x = dropping(2);
+        House x = dropping(2);
         x.roast(0, 100);
         x.roast(1, 200);
         x.roast(0, 300);
@@ -1158,7 +1123,7 @@ public final class PromiseTest {
     }
 
     private static void fullHouse() {
-        RoastHouse x = dropping(12);
+        House x = dropping(12);
         fillBags(x);
         for (int bag = 0; bag < 60; bag++) {
             due("send", x.send(bag, 9), true);
@@ -1180,14 +1145,14 @@ public final class PromiseTest {
     // ---- promise 25
 
     private static void count() {
-        RoastHouse x = dropping(3);
+        House x = dropping(3);
         x.days(4);
         x.roast(0, 100);
         x.roast(1, 200);
         x.take(0, 1);
         x.take(1, 1);
         x.send(1, 0);
-        feedAll(x, "abcde");
+        x.tape("abcde");
         int[] due = {3, 2, 4, 1, 5, 2, 95 + 190};
         for (int what = 0; what < 7; what++) {
             due("count(" + what + ")", x.count(what), due[what]);
