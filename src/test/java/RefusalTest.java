@@ -22,6 +22,7 @@ public final class RefusalTest {
     private final Scenes.Scene busy = Scenes::busy;
     private final Scenes.Scene untaped = Scenes::busyWithoutTape;
     private final Scenes.Scene untold = Scenes::busyNothingTold;
+    private final Scenes.Scene late = Scenes::late;
     private final Scenes.Scene full = Scenes::full;
 
     private RefusalTest() {
@@ -104,6 +105,9 @@ public final class RefusalTest {
         x.due(5, x.part(NONE, 5));
         x.due(11, x.roasted(0));
         x.due(10, x.tenths(0) + x.tenths(1) + x.tenths(2) + x.tenths(3));
+        House z = new House(tally);
+        late.build(z);
+        z.due(972, z.count(2));
         House y = new House(tally);
         full.build(y);
         int[] most = {12, 60, 999, 1, 600, 2};
@@ -135,6 +139,10 @@ public final class RefusalTest {
         tally.about("days");
         for (int n : new int[] {LOW, -1, 101, HIGH}) {
             refused(busy, NONE, x -> x.days(n));
+        }
+        // 27 DAYS more are 999.
+        for (int n : new int[] {28, 29, 100}) {
+            refused(late, NONE, x -> x.days(n));
         }
         for (int n : new int[] {1, 100, 101}) {
             refused(full, NONE, x -> x.days(n));

@@ -48,6 +48,15 @@ final class Scenes {
         x.best(0b1111, 1000);
     }
 
+    /** Busy, and NOW is 972. */
+    static void late(House x) {
+        busy(x);
+        for (int i = 0; i < 9; i++) {
+            x.days(100);
+        }
+        x.days(60);
+    }
+
     static int toldWarmth(int minute) {
         return 100 + 7 * minute;
     }

@@ -313,6 +313,9 @@ final class TextSentences {
         // One beside the other is not within the other.
         dueText("drop when ((((1)))) + ((((2)))) - ((((3)))) < ((((4)))) and ((((5))));");
         dueText("drop when (1 + (2 + (3 + (4 + 5) + 6) + 7) + 8) + 9;");
+        // In each of the five all three sides wait for the next one: 1 and 1 < 1 + ( .. ).
+        String waiting = "1 and 1<1+(".repeat(4);
+        dueMinutes("drop when " + waiting + "1 and 4<1+minute" + ")".repeat(4) + ";", 4);
         dueText("drop when ();", NONE_OR_MISPLACED, 11);
         dueText("drop when (1;", NONE_OR_MISPLACED, 12);
         dueText("drop when 1);", NONE_OR_MISPLACED, 11);
