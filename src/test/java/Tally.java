@@ -18,6 +18,13 @@ class Tally {
         }
     }
 
+    void due(String calls, String want, String got) {
+        asked++;
+        if (!want.equals(got)) {
+            fault(calls + " answered " + got + ", due is " + want);
+        }
+    }
+
     void fault(String what) {
         wrong++;
         if (wrong <= MOST_TOLD) {
